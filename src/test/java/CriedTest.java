@@ -64,6 +64,13 @@ public final class CriedTest {
         due("17: lowest bits", x.judge(21, 0), SwordAttic.NOT);
         Check.bytes(x, 1, -20);
         due("17: a sign", x.judge(21, 0), 0);
+        Check.law(x, "0");
+        Check.bytes(x, 3, new int[30]);
+        int[] same = new int[30];
+        java.util.Arrays.fill(same, 20);
+        Check.bytes(x, 4, same);
+        due("17: 24 hours at most", x.judge(34, 0), 25);
+        Check.law(x, "c=0");
         Check.bytes(x, 1, 0, 6, 5);
         due("17: one row for both", x.judge(11, 0), 0);
         x.mend(0, 3, 0);

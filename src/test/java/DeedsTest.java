@@ -231,5 +231,27 @@ public final class DeedsTest {
             due("31: YEARS", x.of(0, 2), 56 + i);
         }
         due("31: none", x.redo(), SwordAttic.STATE);
+        fortyChangesOfTwo();
+    }
+
+    /** Numbers and whats must be dropped with the first changes, too. */
+    private static void fortyChangesOfTwo() {
+        SwordAttic x = Check.attic(0, 4, 1, 4);
+        for (int i = 0; i < 44; i++) {
+            x.mend(i % 2, i % 3 == 0 ? 1 : 2, i % 3 == 0 ? 8 - i % 7 : 10 + i);
+        }
+        int kept = x.count(3);
+        SwordAttic y = Check.attic(0, 4, 1, 4);
+        for (int i = 0; i < 44 - kept; i++) {
+            y.mend(i % 2, i % 3 == 0 ? 1 : 2, i % 3 == 0 ? 8 - i % 7 : 10 + i);
+        }
+        due("30: forty are kept", kept, 40);
+        for (int i = 0; i < kept; i++) {
+            due("30: undo", x.undo(), kept - 1 - i);
+        }
+        for (int s = 0; s < 2; s++) {
+            due("30: DID as behind the first four", x.of(s, 1), y.of(s, 1));
+            due("30: YEARS as behind the first four", x.of(s, 2), y.of(s, 2));
+        }
     }
 }

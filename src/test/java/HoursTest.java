@@ -59,6 +59,19 @@ public final class HoursTest {
         due("9: 24 hours", x.later(0, 24, 0), 44);
         due("9: not the candle's", x.later(0, 24, 1), 20);
         due("10: of all", x.awake(0, 24, 1), 64);
+        due("11: 24 hours", x.cries(0, 0, 44), 24);
+        due("11: 24 at most", x.cries(0, 0, 45), SwordAttic.NOT);
+        x.mend(0, 3, 99);
+        x.mend(1, 3, 0);
+        Check.law(x, "t*0-2");
+        x.mend(0, 6, 50);
+        due("12: the 25th does not come", x.asleep(0), SwordAttic.NOT);
+        x.mend(0, 3, 98);
+        due("12: the 24th does", x.asleep(0), 24);
+        x.mend(0, 3, 20);
+        x.mend(1, 3, 20);
+        x.mend(0, 6, 10);
+        Check.law(x, "c");
         Check.bytes(x, 0, 0, 0, 12, 0);
         due("9: ends with 12", x.later(0, 24, 0), 22);
         Check.bytes(x, 0, 5, -1, 0);
@@ -146,6 +159,13 @@ public final class HoursTest {
         due("13: three", x.bestRound(3, 2), 8);
         Check.law(x, "c*12");
         due("13: the least without", x.bestRound(3, 2), 0);
+        // the candle helps only behind the first hour, when HOUR is 0
+        Check.law(x, "t=0?0-c*12;0");
+        x.mend(0, 5, 11);
+        due("13: by the hour", x.bestRound(3, -2), 28);
+        due("13: by the hour", x.bestRound(3, 0), 0);
+        due("13: by the hour", x.bestRound(3, 1), 2);
+        due("13: by the hour", x.bestRound(3, 2), 0);
         due("13: in thought", x.of(0, 3), 20);
     }
 
