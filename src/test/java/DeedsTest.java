@@ -236,22 +236,32 @@ public final class DeedsTest {
 
     /** Numbers and whats must be dropped with the first changes, too. */
     private static void fortyChangesOfTwo() {
+        int drops = 17;
         SwordAttic x = Check.attic(0, 4, 1, 4);
-        for (int i = 0; i < 44; i++) {
-            x.mend(i % 2, i % 3 == 0 ? 1 : 2, i % 3 == 0 ? 8 - i % 7 : 10 + i);
+        int[][] states = new int[41 + drops][];
+        states[0] = yearsAndMinds(x);
+        for (int i = 0; i < 40 + drops; i++) {
+            unevenChange(x, i);
+            states[i + 1] = yearsAndMinds(x);
         }
-        int kept = x.count(3);
-        SwordAttic y = Check.attic(0, 4, 1, 4);
-        for (int i = 0; i < 44 - kept; i++) {
-            y.mend(i % 2, i % 3 == 0 ? 1 : 2, i % 3 == 0 ? 8 - i % 7 : 10 + i);
+        due("41: forty are kept", x.count(3), 40);
+        for (int i = 39; i >= 0; i--) {
+            due("30: undo", x.undo(), i);
+            int[] then = yearsAndMinds(x);
+            for (int k = 0; k < then.length; k++) {
+                due("30: as behind change " + (drops + i), then[k], states[drops + i][k]);
+            }
         }
-        due("30: forty are kept", kept, 40);
-        for (int i = 0; i < kept; i++) {
-            due("30: undo", x.undo(), kept - 1 - i);
-        }
-        for (int s = 0; s < 2; s++) {
-            due("30: DID as behind the first four", x.of(s, 1), y.of(s, 1));
-            due("30: YEARS as behind the first four", x.of(s, 2), y.of(s, 2));
-        }
+    }
+
+    private static int[] yearsAndMinds(SwordAttic x) {
+        return new int[] {x.of(0, 2), x.of(0, 3), x.of(1, 2), x.of(1, 3)};
+    }
+
+    /** The bits of two odd numbers choose whose and what, so that no shift of them is like them. */
+    private static void unevenChange(SwordAttic x, int i) {
+        int sword = 0x2E5A1C97 >>> i % 31 & 1;
+        int what = 2 + (0x13D9A6C5 >>> i % 29 & 1);
+        x.mend(sword, what, 30 + i);
     }
 }
