@@ -38,7 +38,7 @@ public final class SwordAttic {
     }
 
     public int swords(int shelf, int i, int n) {
-        if (!isShelf(shelf) || i < 0 || !within(n, 1, MOST_SWORDS)) {
+        if (!isShelf(shelf) || !within(n, 1, MOST_SWORDS)) {
             return BAD;
         }
         Shelf from = shelves[shelf];
@@ -525,6 +525,7 @@ public final class SwordAttic {
             return sword;
         }
 
+        /** A first place that is not there, be it below 0, is where the row ends. */
         int addFrom(Shelf bytes, int first, int most) {
             int came = 0;
             while (came < most && swords < MOST_SWORDS) {

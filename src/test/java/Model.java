@@ -207,7 +207,7 @@ final class Model {
     }
 
     public int swords(int shelf, int i, int n) {
-        if (!in(shelf, 0, 5) || i < 0 || !in(n, 1, 10)) {
+        if (!in(shelf, 0, 5) || !in(n, 1, 10)) {
             return BAD;
         }
         if (shelves[shelf] == null) {
@@ -219,7 +219,7 @@ final class Model {
         long[] e = ((Row) shelves[shelf]).e;
         for (int k = 0; k < n; k++) {
             long at = i + 3L * k;
-            if (at + 2 >= e.length) {
+            if (at < 0 || at + 2 >= e.length) {
                 return k;
             }
             int cot = (int) e[(int) at];
