@@ -2,8 +2,18 @@
 final class Check {
     private static int asked = 0;
     private static int wrong = 0;
+    private static String about = "";
 
     private Check() {
+    }
+
+    /** What the answers from here on are about; it is told with a wrong one. */
+    static void about(String what) {
+        about = what;
+    }
+
+    static int asked() {
+        return asked;
     }
 
     static void due(String call, long got, long want) {
@@ -11,7 +21,7 @@ final class Check {
         if (got != want) {
             wrong++;
             if (wrong <= 40) {
-                System.out.println(call + " answered " + got + ", due is " + want);
+                System.out.println(about + call + " answered " + got + ", due is " + want);
             }
         }
     }
@@ -45,5 +55,23 @@ final class Check {
             due("sword", x.sword(cotsAndDids[i], cotsAndDids[i + 1]), i / 2);
         }
         return x;
+    }
+
+    /** An attic with a law, and swords of DID 0 in these COTS. */
+    static SwordAttic under(String text, int... cots) {
+        SwordAttic x = new SwordAttic();
+        for (int i = 0; i < cots.length; i++) {
+            due("sword", x.sword(cots[i], 0), i);
+        }
+        due("law " + text, law(x, text), 1);
+        return x;
+    }
+
+    /** Lays the minds of swords 0, 1, 2 .. */
+    static void minds(SwordAttic x, int... minds) {
+        for (int i = 0; i < minds.length; i++) {
+            x.mend(i, 3, minds[i]);
+            due("MIND of " + i, x.of(i, 3), minds[i]);
+        }
     }
 }

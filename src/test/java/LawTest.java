@@ -12,13 +12,13 @@ public final class LawTest {
     }
 
     /** What the text gives for one sword of DID 7 in COT 3 (the candle elsewhere). */
-    private static void gives(String text, int want) {
+    static void gives(String text, int want) {
         SwordAttic x = Check.attic(3, 7);
         Check.due("7: law " + text, Check.law(x, text), 1);
         Check.due("8: grows by " + text, x.grows(0), want);
     }
 
-    private static void fault(String text, int place) {
+    static void fault(String text, int place) {
         SwordAttic x = Check.attic(3, 7);
         Check.due("7: fault of " + text, Check.law(x, text), -100 - place);
         Check.due("7: tape behind " + text, x.count(2), 0);
