@@ -11,6 +11,7 @@ final class CriedEdges {
 
     static void test() {
         judged();
+        judgedByItsCots();
         judgedBeyond();
         shelvesOfBoth();
         refusalsOfBoth();
@@ -107,10 +108,42 @@ final class CriedEdges {
         for (int s : noSwords) {
             due("sword " + s, x.judge(0, s), BAD);
         }
-        // only the last digit's shelf is the one that cried
-        Check.bytes(x, 4, 7);
-        due("cried on 4", x.judge(34, 0), 0);
-        due("the round on 4", x.judge(43, 0), NOT);
+        eachItsShelf();
+    }
+
+    /** Rows of all sizes: of two that are told the other way round, or by a neighbour, one would fit that must not. */
+    private static void eachItsShelf() {
+        int[][] sizes = {{0, 1, 2, 3, 4, 5}, {5, 4, 3, 2, 1, 0}};
+        for (int[] size : sizes) {
+            SwordAttic x = Check.under("0", 0);
+            x.mend(0, 3, 0);
+            for (int s = 0; s < 6; s++) {
+                x.row(s, 0, size[s]);
+            }
+            for (int ss = 0; ss < 60; ss++) {
+                if (ss % 10 < 6) {
+                    int most = size[ss / 10] + 1;
+                    boolean isSo = size[ss % 10] <= most;
+                    due("judge " + ss, x.judge(ss, 0), isSo ? NOT : most);
+                    due("fits " + ss, x.fits(ss, 0, 0), isSo ? 10 : 0);
+                }
+            }
+        }
+    }
+
+    private static void judgedByItsCots() {
+        Edge.ofTerms("behind 0, 1, 2 .. hours by a ROUND in another ROW");
+        SwordAttic x = Check.under("c", 3, 9);
+        x.mend(0, 7, 3);
+        Check.bytes(x, 0, 3, 9, 9, 3, 4, 3);
+        Check.bytes(x, 1, 20, 21, 21, 21, 22, 22, 23);
+        Check.bytes(x, 2, 20, 20, 21, 22, 22, 22, 22);
+        due("the candle at 3 in the first, fourth and sixth", x.judge(1, 0), NOT);
+        due("the candle at 9 in the second and third", x.judge(2, 1), NOT);
+        due("not the other's", x.judge(1, 1), 1);
+        due("not the other's", x.judge(2, 0), 1);
+        due("by any DID", x.fits(2, 11, 0), 10);
+        due("by no DID", x.fits(2, 0, 0), 0);
     }
 
     private static void refusalsOfBoth() {

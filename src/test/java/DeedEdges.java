@@ -456,8 +456,8 @@ final class DeedEdges {
 
     private static void forty() {
         Edge.ofTerms("40 at most are kept");
-        int[] made = {39, 40, 41, 80};
-        for (int n : made) {
+        int[] howMany = {39, 40, 41, 80};
+        for (int n : howMany) {
             int kept = Math.min(40, n);
             SwordAttic x = Check.attic(0, 4);
             for (int i = 1; i <= n; i++) {
@@ -470,7 +470,11 @@ final class DeedEdges {
                 due("as it was", x.of(0, 3), left == 0 ? 20 : 20 - 20 * (left % 2) + (left + 1) / 2);
             }
             due("no more", x.undo(), STATE);
-            due("all may be done again", x.redo(), kept - 1);
+            for (int i = 1; i <= kept; i++) {
+                due("done again", x.redo(), kept - i);
+                int made = n - kept + i;
+                due("as it became", x.of(0, 3), 20 - 20 * (made % 2) + (made + 1) / 2);
+            }
         }
         SwordAttic y = Check.attic(0, 4);
         for (int i = 1; i <= 40; i++) {
@@ -488,6 +492,35 @@ final class DeedEdges {
             due("undone", y.undo(), i);
         }
         due("the first is gone", y.of(0, 2), 51);
+        fortyOfMany();
+    }
+
+    /** 45 changes, whose of ten swords and which of two numbers by no short turn: the first five are gone, all in all. */
+    private static void fortyOfMany() {
+        SwordAttic x = SwordEdges.full();
+        int[][][] behind = new int[46][][];
+        behind[0] = numbersOf(x);
+        for (int i = 1; i <= 45; i++) {
+            x.mend(i * i % 10, 2 + i * i / 7 % 2, 50 + i);
+            behind[i] = numbersOf(x);
+        }
+        for (int i = 44; i >= 5; i--) {
+            due("undone", x.undo(), i - 5);
+            same(x, behind[i]);
+        }
+        due("no more", x.undo(), STATE);
+        for (int i = 6; i <= 45; i++) {
+            due("done again", x.redo(), 45 - i);
+            same(x, behind[i]);
+        }
+    }
+
+    private static void same(SwordAttic x, int[][] want) {
+        for (int s = 0; s < want.length; s++) {
+            for (int what = 0; what < want[s].length; what++) {
+                due("number " + what + " of " + s, x.of(s, what), want[s][what]);
+            }
+        }
     }
 
     private static void deedsAreNone() {
