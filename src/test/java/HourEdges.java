@@ -202,7 +202,7 @@ final class HourEdges {
     }
 
     private static void roundEnds() {
-        Edge.ofTerms("(24 at most; it ends with what is none)");
+        Edge.ofTerms("A ROUND: a ROW of bytes on a SHELF: COTS, where the CANDLE is, hour by hour (24 at most; it ends with what is none)");
         int[] none = {12, 13, -1, 127, -128, 268, 255};
         for (int v : none) {
             SwordAttic x = Check.under("1", 0);

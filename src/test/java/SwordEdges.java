@@ -272,7 +272,8 @@ final class SwordEdges {
     }
 
     private static void mend() {
-        Edge.of(4, "COT (what 0; one that is taken: BAD)", "(7; number 0 for these) becomes v: what it was. BAD.");
+        Edge.of(4, "COT (what 0; one that is taken: BAD), DID (1), YEARS (2), MIND (3), HELD (4) of a SWORD, HOUR (5), SLEEPS (6), "
+            + "the CANDLE's COT (7; number 0 for these) becomes v: what it was. BAD.");
         SwordAttic x = Check.attic(4, 1, 5, 2);
         int[] noCots = {-1, 12, 5, Integer.MIN_VALUE, Integer.MAX_VALUE};
         for (int c : noCots) {
@@ -291,6 +292,17 @@ final class SwordEdges {
         for (int what = 5; what < 8; what++) {
             due("number 1 is no number for " + what, x.mend(1, what, 1), BAD);
             due("number 0 is one", x.mend(0, what, 1), what == 6 ? 10 : 0);
+        }
+        int[] greatest = {11, 9, 99, 99, 1, 11, 50, 11};
+        SwordAttic full = full();
+        for (int what = 0; what < 8; what++) {
+            int number = what < 5 ? 9 : 0;
+            due("above the greatest of " + what, full.mend(number, what, greatest[what] + 1), BAD);
+            due("below the least of " + what, full.mend(number, what, -1), BAD);
+            int was = full.of(number, what);
+            due("the greatest of " + what, full.mend(number, what, greatest[what]), was);
+            due("the least of " + what, full.mend(number, what, 0), greatest[what]);
+            due("it became 0", full.of(number, what), 0);
         }
         SwordAttic empty = new SwordAttic();
         due("HOUR without a sword", empty.mend(0, 5, 11), 0);
