@@ -6,7 +6,6 @@ import java.lang.reflect.Modifier;
 import java.nio.file.Files;
 import java.nio.file.Path;
 import java.util.ArrayList;
-import java.util.Arrays;
 import java.util.List;
 import java.util.Set;
 import java.util.TreeSet;
@@ -15,10 +14,9 @@ import java.util.regex.Pattern;
 
 /** The document's public face, and what of LANGUAGE.md can be seen without reading. */
 public final class FaceTest {
-    private static final String FACE =
-        "sword2 swords3 mend3 of2 feed1 law0 grows1 later3 awake3 cries3 asleep1 bestRound2 told1 woken2 walk1 "
-        + "judge2 fits3 dealt1 lines1 byTurns2 drawn3 hour1 telling2 touch1 hold2 led1 image0 back0 undo0 redo0 "
-        + "body1 act3 trace1 keep2 row3 put3 element2 shift5 taken2 count1";
+    private static final Path DOC = Path.of("../shared/DOC.md");
+    private static final Pattern CALL = Pattern.compile("    public (int|long) (\\w+)\\((.*)\\);");
+    private static final Pattern PROMISE = Pattern.compile("`(int|long) (\\w+)\\((.*)\\)`: .*");
     private static final String[] FORBIDDEN = {
         "throw", "try", "catch", "finally", "synchronized", "assert", "import", "->", "::", "protected", "double", "float",
         "hashCode", "toString", "enum", "record", "System.out", "Exact"};
@@ -27,6 +25,7 @@ public final class FaceTest {
         constants();
         members();
         source();
+        whatIsMade();
         Check.end("FaceTest");
     }
 
@@ -38,17 +37,38 @@ public final class FaceTest {
         Check.due("VOID", SwordAttic.VOID, -2000000000);
     }
 
-    private static void members() {
-        Set<String> face = new TreeSet<>(Arrays.asList(FACE.split(" ")));
+    /** The calls of the document by one of its two ways to show them, as answer, name and types of parameters. */
+    private static Set<String> callsOf(Pattern shown) throws IOException {
+        Set<String> calls = new TreeSet<>();
+        for (String line : Files.readAllLines(DOC)) {
+            Matcher m = shown.matcher(line);
+            if (m.matches()) {
+                calls.add(m.group(1) + " " + m.group(2) + "(" + m.group(3).replaceAll(" \\w+(, |$)", "$1") + ")");
+            }
+        }
+        return calls;
+    }
+
+    private static String told(Method m) {
+        List<String> types = new ArrayList<>();
+        for (Class<?> type : m.getParameterTypes()) {
+            types.add(type.getName());
+        }
+        return m.getReturnType().getName() + " " + m.getName() + "(" + String.join(", ", types) + ")";
+    }
+
+    private static void members() throws IOException {
         Set<String> found = new TreeSet<>();
         Set<String> names = new TreeSet<>();
         for (Method m : SwordAttic.class.getDeclaredMethods()) {
             if (Modifier.isPublic(m.getModifiers())) {
-                found.add(m.getName() + m.getParameterCount());
+                found.add(told(m));
                 names.add(m.getName());
             }
         }
-        Check.due("the face is " + found, found.equals(face) ? 1 : 0, 1);
+        Check.due("calls of the face", found.size(), 40);
+        Check.due("the face is " + found + ", due is " + callsOf(CALL), found.equals(callsOf(CALL)) ? 1 : 0, 1);
+        Check.due("the promises are of " + callsOf(PROMISE), found.equals(callsOf(PROMISE)) ? 1 : 0, 1);
         List<Class<?>> classes = new ArrayList<>(List.of(SwordAttic.class.getDeclaredClasses()));
         Check.due("classes inside, twelve at most", classes.size() <= 11 ? 1 : 0, 1);
         for (Class<?> c : classes) {
@@ -109,5 +129,26 @@ public final class FaceTest {
             opened = isEnd ? 0 : opened;
         }
         Check.due("the longest method has " + longest + " lines", longest > 0 && longest <= 60 ? 1 : 0, 1);
+    }
+
+    /** Objects are made by fields and constructors alone, so that no run of calls fills the room. */
+    private static void whatIsMade() throws IOException {
+        Pattern constructor = Pattern.compile("( {4,8})(public )?[A-Z]\\w*\\(.*\\) \\{");
+        String endOfConstructor = "";
+        int made = 0;
+        for (String line : Files.readAllLines(Path.of("src/main/java/SwordAttic.java"))) {
+            Matcher head = constructor.matcher(line);
+            if (head.matches()) {
+                endOfConstructor = head.group(1) + "}";
+            } else if (line.equals(endOfConstructor)) {
+                endOfConstructor = "";
+            }
+            if (line.matches(".*\\bnew\\b.*")) {
+                made++;
+                boolean isField = line.matches(" {4,8}(private )?final [^()]* = new .*;");
+                Check.due("made by a call: " + line.trim(), isField || !endOfConstructor.isEmpty() ? 1 : 0, 1);
+            }
+        }
+        Check.due("something is made", made > 0 ? 1 : 0, 1);
     }
 }
